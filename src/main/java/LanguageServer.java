@@ -249,7 +249,7 @@ public final class LanguageServer {
         /** The 121st token has a row too, as a bad one. */
         static final int ROWS = MAX_TOKENS + 1;
 
-        // The words that are no names, spelled as pack does it.
+        // The spellings of class, extends, int, return, new and this, which are no names.
         private static final long CLASS_WORD = 0x636C617373000000L;
         private static final long EXTENDS_WORD = 0x657874656E647300L;
         private static final long INT_WORD = 0x696E740000000000L;
@@ -260,7 +260,7 @@ public final class LanguageServer {
         final int[] start = new int[ROWS];
         final int[] end = new int[ROWS];
         final int[] sort = new int[ROWS];
-        /** Words packed into numbers, so that both sameness and order of names are those of numbers. */
+        /** The first eight characters, the first uppermost, zeros behind: names are ordered as these numbers are. */
         final long[] spelling = new long[ROWS];
         int size;
 
@@ -355,12 +355,7 @@ public final class LanguageServer {
                     return false;
                 }
             }
-            return sortOfWord(pack(value, n)) == Sort.NAME;
-        }
-
-        /** The spelling of the n (1 .. 8) lowest bytes: moved up, so that a shorter name has zeros behind it. */
-        private static long pack(long value, int n) {
-            return value << (8 * (MAX_WORD - n));
+            return sortOfWord(value << (8 * (MAX_WORD - n))) == Sort.NAME;
         }
 
         private static boolean isLetter(int code) {
@@ -389,7 +384,10 @@ public final class LanguageServer {
         }
     }
 
-    /** What a token does where it stands; the parser tells it, and the rest goes by it alone. */
+    /**
+     * What a token does where it stands. The parser tells it, and all that comes after the parser goes by it;
+     * the judge takes each group of roles together, so their order matters.
+     */
     private static final class Role {
         static final int NOTHING = 0;
         // names that declare
@@ -402,19 +400,20 @@ public final class LanguageServer {
         static final int SUPER = 6;
         static final int TYPE = 7;
         static final int NEW = 8;
-        // names in expressions, with arguments (CALL) or without
+        // operands: names with arguments (CALL) or without, and others
         static final int VARIABLE = 9;
         static final int CALL = 10;
         static final int DOT_FIELD = 11;
         static final int DOT_CALL = 12;
-        // other tokens of methods' bodies
         static final int NUMBER = 13;
         static final int THIS = 14;
+        // tokens between which an expression of a statement stands
         static final int BODY = 15;
         static final int RETURN = 16;
         static final int LOCAL_EQUALS = 17;
         static final int EQUALS = 18;
         static final int END = 19;
+        // signs inside expressions
         static final int PLUS = 20;
         static final int BRACKET = 21;
         static final int ARGUMENTS = 22;
@@ -546,7 +545,7 @@ public final class LanguageServer {
                 return true;
             }
             int owner = type;
-            for (int i = 0; i < classes && isClass(owner); i++) {
+            for (int i = 0; i < classes && owner >= 0 && owner < classes; i++) {
                 if (owner == should) {
                     return true;
                 }
@@ -558,6 +557,16 @@ public final class LanguageServer {
 
     /** The diagnostics: either the fault alone, or those of the tokens. */
     private static final class Complaints {
+        static final int CLASS_TWICE = 1;
+        static final int NO_CLASS = 2;
+        static final int LEADS_BACK = 3;
+        static final int MEMBER_TWICE = 4;
+        static final int VARIABLE_TWICE = 5;
+        static final int NOT_FOUND = 6;
+        static final int NOT_FOUND_BEHIND_DOT = 7;
+        static final int OTHER_ARITY = 8;
+        static final int OTHER_TYPE = 9;
+        static final int NO_TARGET = 10;
         private static final int KINDS = 11;
 
         /** The kinds of the diagnostics of each token, as bits: so they are in order, and each is there once. */
@@ -617,10 +626,12 @@ public final class LanguageServer {
 
     /**
      * Reads the tokens by the grammar, one after the other, as a machine of states: each state is what may
-     * come next, so the first token that a state refuses is the fault.
+     * come next, so the first token that a state refuses is the fault. A state is named after what comes, and
+     * each group of states has a method of its own, so their order matters.
      */
     private static final class Parser {
         private static final int FAULT = 0;
+        // in a class, outside its methods
         private static final int FILE = 1;
         private static final int CLASS_NAME = 2;
         private static final int CLASS_HEAD = 3;
@@ -629,14 +640,17 @@ public final class LanguageServer {
         private static final int MEMBER = 6;
         private static final int MEMBER_NAME = 7;
         private static final int MEMBER_TAIL = 8;
+        // in the head of a method
         private static final int FIRST_PARAMETER = 9;
         private static final int PARAMETER = 10;
         private static final int PARAMETER_NAME = 11;
         private static final int PARAMETER_TAIL = 12;
         private static final int BODY_OPEN = 13;
+        // in the body of a method, before an expression
         private static final int STATEMENT = 14;
         private static final int LOCAL_NAME = 15;
         private static final int LOCAL_EQUALS = 16;
+        // in an expression
         private static final int OPERAND = 17;
         private static final int NEW_NAME = 18;
         private static final int DOT_NAME = 19;
@@ -666,7 +680,16 @@ public final class LanguageServer {
             depth = 0;
             state = FILE;
             for (int t = 0; t < tokens.size; t++) {
-                state = next(t, tokens.sort[t]);
+                int sort = tokens.sort[t];
+                if (state <= MEMBER_TAIL) {
+                    state = nextInClass(t, sort);
+                } else if (state <= BODY_OPEN) {
+                    state = nextInHead(t, sort);
+                } else if (state <= LOCAL_EQUALS) {
+                    state = nextInBody(t, sort);
+                } else {
+                    state = nextInExpression(t, sort);
+                }
                 if (state == FAULT) {
                     outline.giveUp(t);
                     complaints.setFault(tokens.start[t]);
@@ -679,19 +702,6 @@ public final class LanguageServer {
                 return;
             }
             outline.finish(tokens.size);
-        }
-
-        private int next(int t, int sort) {
-            if (state <= MEMBER_TAIL) {
-                return nextInClass(t, sort);
-            }
-            if (state <= BODY_OPEN) {
-                return nextInHead(t, sort);
-            }
-            if (state <= LOCAL_EQUALS) {
-                return nextInBody(t, sort);
-            }
-            return nextInExpression(t, sort);
         }
 
         private int nextInClass(int t, int sort) {
@@ -743,7 +753,7 @@ public final class LanguageServer {
                 case PARAMETER_TAIL:
                     return sort == ',' ? PARAMETER : only(sort, ')', BODY_OPEN);
                 default:
-                    return sort == '{' ? role(t, Role.BODY, STATEMENT) : FAULT;
+                    return sort == '{' ? assign(t, Role.BODY, STATEMENT) : FAULT;
             }
         }
 
@@ -754,7 +764,7 @@ public final class LanguageServer {
                 case LOCAL_NAME:
                     return name(t, sort, Role.LOCAL, LOCAL_EQUALS);
                 default:
-                    return sort == '=' ? role(t, Role.LOCAL_EQUALS, OPERAND) : FAULT;
+                    return sort == '=' ? assign(t, Role.LOCAL_EQUALS, OPERAND) : FAULT;
             }
         }
 
@@ -768,7 +778,7 @@ public final class LanguageServer {
                 return typeName(t, sort, LOCAL_NAME);
             }
             if (sort == Sort.RETURN) {
-                return role(t, Role.RETURN, OPERAND);
+                return assign(t, Role.RETURN, OPERAND);
             }
             equalsMayCome = true;
             return operand(t, sort);
@@ -794,11 +804,11 @@ public final class LanguageServer {
         private int operand(int t, int sort) {
             switch (sort) {
                 case Sort.NAME:
-                    return role(t, Role.VARIABLE, NAME_TAIL);
+                    return assign(t, Role.VARIABLE, NAME_TAIL);
                 case Sort.NUMBER:
-                    return role(t, Role.NUMBER, TAIL);
+                    return assign(t, Role.NUMBER, TAIL);
                 case Sort.THIS:
-                    return role(t, Role.THIS, TAIL);
+                    return assign(t, Role.THIS, TAIL);
                 case Sort.NEW:
                     return NEW_NAME;
                 case '(':
@@ -832,15 +842,15 @@ public final class LanguageServer {
                 case '.':
                     return DOT_NAME;
                 case '+':
-                    return role(t, Role.PLUS, OPERAND);
+                    return assign(t, Role.PLUS, OPERAND);
                 case ',':
-                    return countArgument() ? role(t, Role.COMMA, OPERAND) : FAULT;
+                    return countArgument() ? assign(t, Role.COMMA, OPERAND) : FAULT;
                 case ')':
                     return close(t);
                 case '=':
                     return equalsSign(t);
                 case ';':
-                    return depth == 0 ? role(t, Role.END, STATEMENT) : FAULT;
+                    return depth == 0 ? assign(t, Role.END, STATEMENT) : FAULT;
                 default:
                     return FAULT;
             }
@@ -851,7 +861,7 @@ public final class LanguageServer {
                 return FAULT;
             }
             equalsMayCome = false;
-            return role(t, Role.EQUALS, OPERAND);
+            return assign(t, Role.EQUALS, OPERAND);
         }
 
         private int open(int called, int then) {
@@ -868,7 +878,7 @@ public final class LanguageServer {
                 return FAULT;
             }
             depth--;
-            return role(t, Role.CLOSE, TAIL);
+            return assign(t, Role.CLOSE, TAIL);
         }
 
         /** Counts an argument of the innermost call; answers whether the innermost bracket is one of a call. */
@@ -882,14 +892,17 @@ public final class LanguageServer {
         }
 
         private int name(int t, int sort, int role, int then) {
-            return sort == Sort.NAME ? role(t, role, then) : FAULT;
+            return sort == Sort.NAME ? assign(t, role, then) : FAULT;
         }
 
         private int typeName(int t, int sort, int then) {
-            return sort == Sort.INT_WORD ? then : name(t, sort, Role.TYPE, then);
+            if (sort == Sort.INT_WORD) {
+                return then;
+            }
+            return sort == Sort.NAME ? assign(t, Role.TYPE, then) : FAULT;
         }
 
-        private int role(int t, int role, int then) {
+        private int assign(int t, int role, int then) {
             outline.role[t] = role;
             return then;
         }
@@ -920,7 +933,7 @@ public final class LanguageServer {
                 switch (outline.role[t]) {
                     case Role.CLASS:
                         owner = t;
-                        tell(t, 0, Role.CLASSES, 1);
+                        tell(t, 0, Role.CLASSES, Complaints.CLASS_TWICE);
                         break;
                     case Role.SUPER:
                     case Role.TYPE:
@@ -931,12 +944,12 @@ public final class LanguageServer {
                     case Role.METHOD:
                         method = t;
                         outline.typeOf[t] = typeBefore(t);
-                        tell(t, owner, Role.MEMBERS, 4);
+                        tell(t, owner, Role.MEMBERS, Complaints.MEMBER_TWICE);
                         break;
                     case Role.PARAMETER:
                     case Role.LOCAL:
                         outline.typeOf[t] = typeBefore(t);
-                        tell(t, method, Role.VARIABLES, 5);
+                        tell(t, method, Role.VARIABLES, Complaints.VARIABLE_TWICE);
                         break;
                     default:
                         break;
@@ -957,7 +970,7 @@ public final class LanguageServer {
         private void nameClass(int t) {
             outline.meaning[t] = outline.find(0, outline.size, tokens.spelling[t], Role.CLASSES);
             if (outline.meaning[t] == NONE) {
-                complaints.mark(t, 2);
+                complaints.mark(t, Complaints.NO_CLASS);
             }
         }
 
@@ -974,9 +987,10 @@ public final class LanguageServer {
                 extended[number] = named == NONE || outline.meaning[named] == NONE ? NONE : outline.typeNamed(named);
             }
             for (int number = 0; number < outline.classes; number++) {
-                if (leadsBack(number)) {
-                    outline.meaning[superName(number)] = NONE;
-                    complaints.mark(superName(number), 3);
+                int named = superName(number);
+                if (named != NONE && leadsBack(number)) {
+                    outline.meaning[named] = NONE;
+                    complaints.mark(named, Complaints.LEADS_BACK);
                 } else {
                     outline.superOf[number] = extended[number];
                 }
@@ -1021,6 +1035,7 @@ public final class LanguageServer {
         private int level;
         private int owner;
         private int method;
+        private int local;
         private int statement;
         private int should;
 
@@ -1032,6 +1047,7 @@ public final class LanguageServer {
 
         void judge() {
             level = 0;
+            called[level] = NONE;
             for (int t = 0; t < outline.size; t++) {
                 int role = outline.role[t];
                 if (role < Role.VARIABLE) {
@@ -1054,6 +1070,9 @@ public final class LanguageServer {
                 case Role.METHOD:
                     method = t;
                     break;
+                case Role.LOCAL:
+                    local = t;
+                    break;
                 case Role.NEW:
                     termType[level] = outline.typeNamed(t);
                     break;
@@ -1071,45 +1090,42 @@ public final class LanguageServer {
                     termType[level] = owner;
                     return;
                 case Role.VARIABLE:
-                    useVariable(t);
+                    if (!useVariable(t)) {
+                        useMember(t, owner, Role.FIELD, Complaints.NOT_FOUND);
+                    }
                     break;
                 case Role.CALL:
-                    useMember(t, owner, Role.METHOD, 6);
+                    useMember(t, owner, Role.METHOD, Complaints.NOT_FOUND);
                     break;
                 case Role.DOT_FIELD:
-                    useDotName(t, Role.FIELD);
+                    useMember(t, termType[level], Role.FIELD, Complaints.NOT_FOUND_BEHIND_DOT);
                     break;
                 default:
-                    useDotName(t, Role.METHOD);
+                    useMember(t, termType[level], Role.METHOD, Complaints.NOT_FOUND_BEHIND_DOT);
                     break;
             }
             termType[level] = outline.typeNamed(t);
         }
 
-        private void useVariable(int t) {
-            int found = outline.find(method, statement, tokens.spelling[t], Role.VARIABLES);
-            if (found == NONE) {
-                useMember(t, owner, Role.FIELD, 6);
-            } else {
-                outline.meaning[t] = found;
-            }
+        /** Looks among the parameters and the locals of the statements before. */
+        private boolean useVariable(int t) {
+            outline.meaning[t] = outline.find(method, statement, tokens.spelling[t], Role.VARIABLES);
+            return outline.meaning[t] != NONE;
         }
 
-        private void useDotName(int t, int wanted) {
-            if (termType[level] != UNKNOWN) {
-                useMember(t, termType[level], wanted, 7);
+        /** Looks among the members of what stands before: an INT has none, and those of an UNKNOWN nobody knows. */
+        private void useMember(int t, int before, int wanted, int kind) {
+            if (before == UNKNOWN) {
+                return;
             }
-        }
-
-        private void useMember(int t, int type, int wanted, int kind) {
-            int found = outline.findMember(type, tokens.spelling[t]);
+            int found = outline.findMember(before, tokens.spelling[t]);
             if (found == NONE || outline.role[found] != wanted) {
                 complaints.mark(t, kind);
                 return;
             }
             outline.meaning[t] = found;
             if (wanted == Role.METHOD && outline.arity[found] != outline.arity[t]) {
-                complaints.mark(t, 8);
+                complaints.mark(t, Complaints.OTHER_ARITY);
             }
         }
 
@@ -1123,11 +1139,11 @@ public final class LanguageServer {
                     begin(t + 1);
                     break;
                 case Role.LOCAL_EQUALS:
-                    should = outline.typeOf[t - 1];
+                    should = outline.typeOf[local];
                     begin(t + 1);
                     break;
                 case Role.EQUALS:
-                    checkTarget(t - 1);
+                    checkTarget(t);
                     should = endExpression();
                     begin(t + 1);
                     break;
@@ -1144,11 +1160,11 @@ public final class LanguageServer {
             begin(t);
         }
 
-        /** What is before = may be given a value only if its last token is a name, but not that of a call or behind new. */
-        private void checkTarget(int last) {
-            int role = outline.role[last];
+        /** Looks at the token before = : only a term that may stand there ends with one of these roles. */
+        private void checkTarget(int t) {
+            int role = t > 0 ? outline.role[t - 1] : Role.NOTHING;
             if (summed[level] || (role != Role.VARIABLE && role != Role.DOT_FIELD)) {
-                complaints.mark(firstToken[level], 10);
+                complaints.mark(firstToken[level], Complaints.NO_TARGET);
             }
         }
 
@@ -1166,11 +1182,13 @@ public final class LanguageServer {
                     open(t - 1, t + 1);
                     break;
                 case Role.COMMA:
-                    endArgument();
+                    checkArgument(endExpression());
                     begin(t + 1);
                     break;
                 default:
-                    close();
+                    int type = endExpression();
+                    checkArgument(type);
+                    close(type);
                     break;
             }
         }
@@ -1184,20 +1202,14 @@ public final class LanguageServer {
             }
         }
 
-        private void close() {
-            if (level == 0) {
-                return;
-            }
-            if (called[level] == NONE) {
-                int type = endExpression();
+        private void close(int type) {
+            if (level > 0) {
+                boolean brackets = called[level] == NONE;
                 level--;
-                termType[level] = type;
-                return;
+                if (brackets) {
+                    termType[level] = type;
+                }
             }
-            if (outline.arity[called[level]] > 0) {
-                endArgument();
-            }
-            level--;
         }
 
         private void begin(int t) {
@@ -1214,10 +1226,12 @@ public final class LanguageServer {
             return INT;
         }
 
-        private void endArgument() {
-            int type = endExpression();
+        private void checkArgument(int type) {
             int name = called[level];
-            int target = name == NONE ? NONE : outline.meaning[name];
+            if (name == NONE || outline.arity[name] == 0) {
+                return;
+            }
+            int target = outline.meaning[name];
             if (target != NONE && outline.arity[target] == outline.arity[name]) {
                 want(firstToken[level], type, outline.parameterType(target, argument[level]));
             }
@@ -1226,7 +1240,7 @@ public final class LanguageServer {
 
         private void want(int t, int type, int wanted) {
             if (!outline.isRight(type, wanted)) {
-                complaints.mark(t, 9);
+                complaints.mark(t, Complaints.OTHER_TYPE);
             }
         }
     }
@@ -1309,7 +1323,7 @@ public final class LanguageServer {
             touch();
         }
 
-        /** Whether the uses of a declaration, and the number of diagnostics, are just those that they are in another reading. */
+        /** Whether a declaration has just the uses that it has in another reading, with as many diagnostics. */
         boolean agreesWith(Reading other, int declaration) {
             int here = outline.meaning[declaration];
             if (here == NONE || complaints.total() != other.complaints.total()) {
