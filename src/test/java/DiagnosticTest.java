@@ -21,6 +21,7 @@ final class DiagnosticTest {
         orderAndOnce();
         indices();
         afterEdits();
+        readAnew();
         CHECK.close("DiagnosticTest");
     }
 
@@ -317,6 +318,13 @@ final class DiagnosticTest {
         due(inMethod("b=<9>n+b;"));
         due(inMethod("b=(1+<9>n)+1;"));
         due(inMethod("b=<6>x+1;"));
+        due(inMethod("(a+<9>n.n).<7>a;"));
+        due(inMethod("b=1+(<9>n+<9>n.n);"));
+        due(inMethod("f((1)+<9>n);f(((1)+1)+b);"));
+        due(inMethod("1+1;n=n;f(f(1)+1);n=n.n;"));
+        due(inMethod("((((((((<6>x+<9>n))))))));"));
+        due(inMethod("f(f(f(f(f(f(f(f(<9>n))))))));"));
+        due(inMethod("f(f(f(f(f(f(f(n.<8>f(n,n))))))));"));
         due(inMethod("n=<9>(<6>x+1);"));
         due(inMethod("n=<6>x;b=<6>x;<6>x=n;<6>x=1;"));
         due("class A{<2>X f(){return 1;}A g(){return f();}int h(){return this.f()+1;}}");
@@ -384,7 +392,43 @@ final class DiagnosticTest {
         CHECK.same("a name is there twice", Check.diagnosticsOf(server), "4@18");
         server.insert(19, '2');
         CHECK.same("sound again", Check.diagnosticsOf(server), "");
-        server.append(Check.bytes("class A{}"), 8);
-        CHECK.same("one more begins", Check.diagnosticsOf(server), "0@22");
+        server.append(Check.bytes("class A{"), 8);
+        CHECK.same("one more begins", Check.diagnosticsOf(server), "0@30");
+        CHECK.gives("no class", 0, () -> server.count(0));
+        server.append('}', 1);
+        CHECK.gives("kind at once", 1, () -> server.diagnostic(0, 0));
+        server.insert(0, ' ');
+        CHECK.gives("place at once", 29, () -> server.diagnostic(0, 1));
+        server.delete(0, 32);
+        CHECK.gives("nothing is left", 0, server::diagnostics);
+        CHECK.gives("no tokens are left", 0, () -> server.count(1));
+    }
+
+    /** Nothing of what was read before may be left in what is read now. */
+    private static void readAnew() {
+        LanguageServer server = Check.server("class A{int f(){f(1,2);}}");
+        CHECK.same("two arguments", Check.diagnosticsOf(server), "8@16");
+        server.delete(19, 2);
+        CHECK.same("one argument", Check.diagnosticsOf(server), "8@16");
+        server.delete(18, 1);
+        CHECK.same("no argument", Check.diagnosticsOf(server), "");
+        server.delete(18, 1);
+        CHECK.same("open", Check.diagnosticsOf(server), "0@18");
+        server.delete(17, 1);
+        CHECK.same("a variable", Check.diagnosticsOf(server), "6@16");
+        server.delete(13, 2);
+        CHECK.same("a field would end", Check.diagnosticsOf(server), "0@13");
+        server.delete(13, 4);
+        server.insert(13, ';');
+        CHECK.same("what is left", Check.textOf(server), "class A{int f;}");
+        CHECK.same("a field alone", Check.diagnosticsOf(server), "");
+        CHECK.gives("its definition", 12, () -> server.definition(12));
+        LanguageServer deep = Check.server("class A{int f(){((((((((");
+        CHECK.same("eight are open", Check.diagnosticsOf(deep), "0@24");
+        deep.delete(16, 8);
+        for (char code : "((((((((1))))))));}}".toCharArray()) {
+            deep.insert(deep.count(2), code);
+        }
+        CHECK.same("eight are closed", Check.diagnosticsOf(deep), "");
     }
 }

@@ -18,6 +18,7 @@ final class NameTest {
         faults();
         members();
         memberOrder();
+        atOnceAfterEdits();
         CHECK.close("NameTest");
     }
 
@@ -188,6 +189,26 @@ final class NameTest {
         LanguageServer twice = Check.server("class A{int a;}class A extends A{int b;}class B extends A{}");
         CHECK.gives("the second of a name", 2, () -> twice.members(1));
         CHECK.gives("extends the first of a name", 1, () -> twice.members(2));
+    }
+
+    /** Each question is answered of the text as it is, whichever comes first after an edit. */
+    private static void atOnceAfterEdits() {
+        LanguageServer server = Check.server("class A{A a;}");
+        server.insert(0, ' ');
+        CHECK.gives("definition", 7, () -> server.definition(9));
+        server.insert(0, ' ');
+        CHECK.gives("type", 0, () -> server.type(12));
+        server.insert(0, ' ');
+        CHECK.gives("references", 2, () -> server.references(9));
+        server.insert(0, ' ');
+        CHECK.gives("reference", 12, () -> server.reference(10, 1));
+        server.insert(14, 'b');
+        CHECK.gives("members", 1, () -> server.members(0));
+        server.insert(0, ' ');
+        CHECK.gives("member", 15, () -> server.member(0, 0));
+        server.insert(0, ' ');
+        CHECK.gives("rename", 2, () -> Check.rename(server, 12, "B"));
+        CHECK.same("text", Check.textOf(server), "      class B{B ba;}");
     }
 
     private static void memberOrder() {
