@@ -265,6 +265,11 @@ final class FaultEdgeTest {
         faultAtMark(inMethod("1=2#=3;"));
         faultAtMark(inMethod("int b=1#=2;"));
         faultAtMark(inMethod("return 1#=2;"));
+        faultAtMark(inMethod("1;int b=1#=2;"));
+        faultAtMark(inMethod("1;return 1#=2;"));
+        faultAtMark(inMethod("1=2;1=2#=3;"));
+        faultAtMark(inMethod("(1#=2);"));
+        faultAtMark(inMethod("f(1#=2);"));
     }
 
     private static void anyNumber() {
@@ -285,6 +290,10 @@ final class FaultEdgeTest {
         faultAtMark(inMethod("f(#,1);"));
         faultAtMark(inMethod("f(1 #1);"));
         faultAtMark(inMethod("(#);"));
+        faultAtMark(inMethod("(1#,2);"));
+        faultAtMark(inMethod("f((1#,2));"));
+        faultAtMark(inMethod("1#,2;"));
+        faultAtMark(inMethod("f(1)#,2;"));
         faultAtMark(inMethod("1+#;"));
         faultAtMark(inMethod("1+#+1;"));
         faultAtMark(inMethod("a.#;"));
@@ -336,6 +345,9 @@ final class FaultEdgeTest {
         faultAtMark(inMethod("((((((((this.a#()))))))));"));
         sound(inMethod("f(f(f(f(f(f(f(f()))))))) ;"));
         faultAtMark(inMethod("f(f(f(f(f(f(f(f(f#())))))))) ;"));
+        faultAtMark(inMethod("((((((((1))))))))#);"));
+        faultAtMark(inMethod("((((((((1)))))))#;"));
+        faultAtMark(inMethod("1#);"));
         faultAtMark("class A{int f(){((((((((#(");
         faultAtMark("class A{int f(){((((((((#");
     }

@@ -25,6 +25,7 @@ final class JudgeEdgeTest {
         kind8();
         kind9();
         kind10();
+        eightDeep();
         typesOfExpressions();
         unknownTypes();
         behindUnknown();
@@ -354,6 +355,25 @@ final class JudgeEdgeTest {
         EDGES.judged(inMethod("<6,10>x+n.a=1;"));
         EDGES.judged(inMethod("<6>x=1;n.<7>x=1;<6>x.y=1;"));
         EDGES.judged(inMethod("1;(a);f(1);a+b;int c=1;return 1;"));
+    }
+
+    private static void eightDeep() {
+        EDGES.sentence("Brackets and arguments stand at most 8 deep in one another, and there all is judged as elsewhere");
+        for (int deep = 7; deep <= 8; deep++) {
+            String open = "(".repeat(deep);
+            String close = ")".repeat(deep);
+            EDGES.judged(inMethod("a=" + open + "b+<9>n" + close + ";"));
+            EDGES.judged(inMethod("a=<9>" + open + "n" + close + ";"));
+            EDGES.judged(inMethod("n=<9>" + open + "b" + close + ";"));
+            EDGES.judged(inMethod(open + "n" + close + ".<7>x;"));
+            EDGES.judged(inMethod(open + "<6>x" + close + ".y;"));
+            String calls = "f(".repeat(deep);
+            EDGES.judged(inMethod(calls + "<9>n" + close + ";"));
+            EDGES.judged(inMethod(calls + "<9>n+1" + close + ";"));
+            EDGES.judged(inMethod(calls + "1+1" + close + ";"));
+            EDGES.judged(inMethod(calls + "<6>x.y" + close + ";"));
+            EDGES.judged(inMethod("f(".repeat(deep - 1) + "<8>f(n,<6>x)" + ")".repeat(deep - 1) + ";"));
+        }
     }
 
     private static void typesOfExpressions() {

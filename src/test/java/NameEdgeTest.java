@@ -14,6 +14,7 @@ final class NameEdgeTest {
         behindUnknown();
         withAFault();
         textAsItIs();
+        nothingOfAnEarlierText();
         placesOfAName();
         noSuchName();
         types();
@@ -148,6 +149,33 @@ final class NameEdgeTest {
             s.append(Check.bytes(" B{}"), 4);
             return s.count(0);
         });
+    }
+
+    private static void nothingOfAnEarlierText() {
+        EDGES.sentence("Everything is of the text as it is, and nothing of one that was");
+        String[] texts = {"", "class A{int f(){f(f(1,2),((((((1", "class A{int f(){((((((((1))))))));}}",
+            "class A{int f(int a,A b){f(a,b);a=b;}}class B extends A{}", "class B extends A{int f;}class A extends B{int f(){f();}}",
+            "class A{int a;int f(){a=1", "class A{int a;int f(){return a=1;}}", "class A{}".repeat(26),
+            "class A{int f(){" + "1;".repeat(55) + "}}", "class A{int f(){" + "1;".repeat(56) + "}}", "$",
+            "class A{int f(){f();}}", "class A{int f(){f(1,2,3);}}", "class A{int f(int a){f(a);}}"};
+        for (String before : texts) {
+            for (String after : texts) {
+                EDGES.changes("all out, and <" + after + "> in", before, after.length(), after, s -> {
+                    s.diagnostics();
+                    s.delete(0, before.length());
+                    return put(s, after);
+                });
+            }
+        }
+    }
+
+    /** Puts a text behind the one that is there; answers the new length. */
+    private static int put(LanguageServer server, String text) {
+        for (int i = 0; i < text.length(); i += 8) {
+            String part = text.substring(i, Math.min(i + 8, text.length()));
+            server.append(Check.bytes(part), part.length());
+        }
+        return server.count(2);
     }
 
     private static void placesOfAName() {
